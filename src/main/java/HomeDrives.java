@@ -1128,8 +1128,6 @@ public final class HomeDrives {
             going = carsThatGo;
             drivers = 0;
             for (int c = 0; c < MOST_CARS; c++) {
-                aboard[c] = 0;
-                riders[c] = 0;
                 if (hasBit(going, c)) {
                     drivers |= 1 << e.owners[c];
                 }

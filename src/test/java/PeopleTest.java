@@ -110,5 +110,9 @@ public final class PeopleTest {
         Due.due("far(0, -1)", x.far(0, -1), HomeDrives.BAD);
         HomeDrives y = Due.at("law 0 1;way 7 6 99;way 5 6 99;way 5 4 99;way 3 4 99;way 3 2 99;way 1 2 99;way 1 0 99;");
         Due.due("the longest", y.far(0, 7), 693);
+        HomeDrives z = Due.at("law 0 1;");
+        for (int site = 0; site < 8; site++) {
+            Due.due("from a site to itself", z.far(site, site), 0);
+        }
     }
 }

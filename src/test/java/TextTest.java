@@ -74,6 +74,7 @@ public final class TextTest {
         dueFaultAt("^laws 5 4;", 1);
         dueFaultAt("^Law 5 4;", 1);
         dueFaultAt("^lawz 5 4;", 1);
+        dueFaultAt("^caw 5 4;", 1);
         dueFaultAt("^alaw 5 4;", 1);
         dueFaultAt("law^`5 4;", 1);
         dueFaultAt("law^{5 4;", 1);
@@ -180,6 +181,10 @@ public final class TextTest {
     /** Evenings in a row, of which none has anything of those before it. */
     private static void nothingOfEarlierOnes() {
         HomeDrives x = new HomeDrives();
+        Due.due("a longer text", Due.read(x, "law 5 44;"), -1000106);
+        Due.due("its end", Due.read(x, "law 5 4"), -1000107);
+        Due.due("a longer word", Due.read(x, "lawlaw"), -1000100);
+        Due.due("its end", Due.read(x, "law"), -1000103);
         String full = LAW + "way 1 2 1;".repeat(16) + "hill 1;hill 2;hill 3;hill 4;hill 5;hill 6;hill 7;"
             + "person sick 1 0;".repeat(2) + "person plain 1 0;".repeat(2) + "car 2 1 1;car 1 1 1;car 0 1 1;" + "quarrel 0 1;".repeat(6);
         String bare = LAW + "way 0 1 3;person plain 1 0;person plain 1 0;car 0 1 0;";

@@ -1,14 +1,20 @@
 /** Compares answers with those that are due, and feeds texts. */
 final class Due {
     private static int wrong = 0;
+    private static String under = "";
 
     private Due() {
+    }
+
+    /** What is told ahead of each wrong answer from now on. */
+    static void under(String heading) {
+        under = heading;
     }
 
     static void due(String call, long got, long want) {
         if (got != want) {
             wrong++;
-            System.out.println(call + " answered " + got + ", due is " + want);
+            System.out.println(under + call + " answered " + got + ", due is " + want);
         }
     }
 

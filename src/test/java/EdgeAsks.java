@@ -79,6 +79,7 @@ final class EdgeAsks {
             Due.due("a glass behind it", x.drink(1, 3), 4);
             Due.due("can be undone", x.undo(), 0);
         }
+        restoresAll();
         Sentences.says(26, "BAD;");
         for (int k : new int[] {-1, 2, MIN, MAX}) {
             Due.due("restore(" + k + ")", x.restore(k), BAD);
@@ -89,6 +90,32 @@ final class EdgeAsks {
         Due.due("restore(0)", x.restore(0), STATE);
         Due.due("the drink can be undone yet", x.count(4), 1);
         Due.due("no image at all", new HomeDrives().restore(1), STATE);
+    }
+
+    /** Two evenings that are unlike in all, restored over one another. */
+    private static void restoresAll() {
+        HomeDrives x = Due.at("law 10 5;way 0 1 8;way 0 2 1;hill 2;hill 3;person plain 1 1;person sick 1 0;person stranger 2 0;car 0 2 0;car 2 1 1;");
+        x.image(0);
+        Due.read(x, "law 0 20;way 0 2 3;way 0 1 3;hill 1;person sick 2 0;person plain 2 0;person driver 1 0;person plain 2 0;car 1 4 0;quarrel 0 3;");
+        x.image(1);
+        int[][] goes = {{3}, {1}}, cars = {{0, 2, 0, 2, 1, 1}, {1, 4, 0, BAD, BAD, BAD}}, home = {{0, 9, 0, 2, 0}, {2, 3, 12, 1, BAD}};
+        int[][] people = {{1, 4, 3, BAD}, {4, 1, 2, 1}}, quarrels = {{0, 0, 0, BAD}, {8, 0, 0, 1}}, far = {{0, 8, 1, NONE}, {0, 3, 3, NONE}};
+        for (int round = 0; round < 4; round++) {
+            int k = round % 2;
+            Due.due("restore(" + k + ")", x.restore(k), 1);
+            Due.due("goes(0)", x.goes(0), goes[k][0]);
+            for (int i = 0; i < 6; i++) {
+                Due.due("car(" + i / 3 + ", " + i % 3 + ") of " + k, x.car(i / 3, i % 3), cars[k][i]);
+            }
+            for (int what = 0; what < 5; what++) {
+                Due.due("home(0, " + what + ") of " + k, x.home(0, what), home[k][what]);
+            }
+            for (int i = 0; i < 4; i++) {
+                Due.due("kind(" + i + ") of " + k, x.kind(i), people[k][i]);
+                Due.due("person(" + i + ", 3) of " + k, x.person(i, 3), quarrels[k][i]);
+                Due.due("far(0, " + i + ") of " + k, x.far(0, i), far[k][i]);
+            }
+        }
     }
 
     private static void kinds() {

@@ -58,6 +58,8 @@ final class EdgeHome {
         Due.due("a driver without glasses", Due.at(LAW + "way 0 1 1;person driver 1 0;car 0 1 0;").goes(0), 1);
         String far = LAW + "way 0 1 1;way 1 2 1;way 3 4 1;person plain 2 0;person plain 3 0;person plain 7 0;car 0 1 1;car 1 1 1;car 2 1 1;";
         Due.due("homes by two ways, by none, by none at all", Due.at(far).goes(0), 1);
+        String apart = LAW + "way 0 2 1;way 1 3 1;person plain 2 0;person plain 3 0;person plain 1 0;car 0 1 1;car 1 1 1;car 2 1 1;";
+        Due.due("come to from 0, and not from 0", Due.at(apart).goes(0), 1);
         String hill = LAW + "way 0 1 1;way 1 2 1;hill 1;person plain 1 0;person plain 1 0;person plain 2 0;car 0 1 0;car 1 1 1;car 2 1 0;";
         Due.due("on a hill, there with snow, and beyond it", Due.at(hill).goes(0), 6);
         Sentences.says(17, "CARS that GO (bits).");
@@ -145,6 +147,9 @@ final class EdgeHome {
         String fork = LAW + "way 0 1 3;way 0 2 4;";
         dueOrder(Due.at(fork + AT_1 + AT_2 + AT_1 + "car 0 2 0;"), 0, 11, 1, 2);
         dueOrder(Due.at(fork + AT_2 + AT_1 + AT_2 + "car 2 2 0;"), 0, 10, 1, 0);
+        // From 0 it is nearer to 2, from the owner's home and from all others it is not.
+        dueOrder(Due.at(LAW + "way 0 2 1;way 0 3 5;way 2 3 5;way 2 4 5;way 3 4 5;way 1 3 1;person plain 4 0;person plain 3 0;" + AT_2
+            + "car 0 2 0;"), 0, 11, 2, 1);
     }
 
     private static void sickOnes() {
@@ -228,6 +233,15 @@ final class EdgeHome {
         HomeDrives x = Due.at(LINE + "person plain 5 0;person plain 1 9;person plain 4 0;person plain 3 0;person plain 2 0;car 0 4 0;car 1 1 0;");
         dueOrder(x, 0, 5, 1, 4, 3, 2);
         Due.due("order(600, 0, 3)", x.order(600, 0, 3), 2);
+        // Two cars asked in turn, first for who is set down.
+        HomeDrives y = Due.at(LINE + "way 0 6 9;way 6 7 9;person plain 3 0;person plain 2 0;person plain 1 0;person plain 7 0;person plain 7 0;"
+            + "person plain 6 0;car 0 2 0;car 3 2 0;");
+        int[][] want = {{2, 1, NONE, 3}, {5, 4, NONE, 18}};
+        for (int i = 0; i < 4; i++) {
+            int k = i < 3 ? i : -1;
+            Due.due("order(0, 0, " + k + ") in turn", y.order(0, 0, k), want[0][i]);
+            Due.due("order(0, 1, " + k + ") in turn", y.order(0, 1, k), want[1][i]);
+        }
         dueOrder(Due.at(LINE + AT_2 + "car 0 4 0;"), 0, 2);
         Sentences.says(19, "NONE: not so many, it does not GO.");
         for (int k : new int[] {4, 5, 7, 40, MAX}) {

@@ -216,6 +216,7 @@ final class EdgePeople {
         }
         Due.due("the first drink of 0 stays", x.person(0, 1), 2 + 1);
         Due.due("the first drink of 1 stays", x.person(1, 1), 2);
+        undoesBackwards();
         HomeDrives y = Due.at(THREE);
         for (int i = 0; i < 24; i++) {
             y.drink(1, 1);
@@ -235,6 +236,23 @@ final class EdgePeople {
         Due.due("at first", Due.at(THREE).undo(), STATE);
         Due.due("without an evening", new HomeDrives().undo(), STATE);
         Due.due("nothing changed", x.count(5), 3 + 2 + 9);
+    }
+
+    /** Drinks of all in turn, one more than are kept, each undone as it was. */
+    private static void undoesBackwards() {
+        HomeDrives x = Due.at(THREE);
+        int[] had = {2, 0, 9};
+        for (int i = 0; i < 25; i++) {
+            had[i % 3] += 1 + i % 4;
+            Due.due("drink(" + i % 3 + ", " + (1 + i % 4) + ")", x.drink(i % 3, 1 + i % 4), had[i % 3]);
+        }
+        for (int i = 24; i >= 1; i--) {
+            had[i % 3] -= 1 + i % 4;
+            Due.due("undo()", x.undo(), i - 1);
+            for (int p = 0; p < 3; p++) {
+                Due.due("person(" + p + ", 1) behind it", x.person(p, 1), had[p]);
+            }
+        }
     }
 
     private static void tellsPeople() {

@@ -8,12 +8,24 @@ final class EdgeTerms {
     }
 
     static void run() {
+        lastCall();
         newObject();
         numbersGoFromNought();
         divisions();
         setsAreBits();
         refusalsInTheirOrder();
         findings();
+    }
+
+    private static void lastCall() {
+        Due.under("What it is, \"An object is used for at most 512 calls after it has been made\": ");
+        HomeDrives x = new HomeDrives();
+        int calls = (ONE.length() + 7) / 8 + 1;
+        Due.due("the evening", Due.read(x, ONE), 1);
+        for (; calls < 511; calls++) {
+            Due.due("row(0, 0, 40)", x.row(0, 0, 40), 40);
+        }
+        Due.due("the 512th call", x.home(0, 1), 1);
     }
 
     private static void newObject() {

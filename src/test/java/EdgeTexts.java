@@ -97,6 +97,14 @@ final class EdgeTexts {
         Due.due("and anew", x.evening(), 1);
         Due.feed(x, (LAW + " ".repeat(500 - 8 - 16) + GUEST).substring(0, 500));
         Due.due("500 without the last sign", x.evening(), -1000600);
+        Due.feed(x, " ".repeat(497) + "law");
+        Due.due("500 that end in letters", x.evening(), -1000600);
+        Due.feed(x, "law" + " ".repeat(494) + "123");
+        Due.due("500 that end in figures", x.evening(), -1000597);
+        Due.due("their fault()", x.fault(), 2);
+        Due.feed(x, "law 5" + " ".repeat(491) + "1234");
+        Due.due("500 that end in four figures", x.evening(), -1000596);
+        Due.due("their fault()", x.fault(), 1);
     }
 
     private static void tokens() {
@@ -121,6 +129,9 @@ final class EdgeTexts {
         dueFault("law 005 ^0004;", 1);
         dueFault("law 5 4;way 0 1 ^0009;", 1);
         dueFault("^LAW 5 4;", 1);
+        dueFault("^naw 5 4;", 1);
+        dueFault("^lew 5 4;", 1);
+        dueFault("^lax 5 4;", 1);
         dueFault("^la w 5 4;", 1);
         dueFault("law 5 4;way 0 1 9^,", 1);
     }
@@ -210,6 +221,8 @@ final class EdgeTexts {
             HomeDrives x = Due.at(LAW + "way 0 " + site + " 1;hill " + site + ";hill " + site + ";person plain " + site + " 0;car 0 1 0;");
             Due.due("on hill " + site, x.goes(0), 0);
         }
+        String two = "way 0 1 1;way 0 2 1;way 0 3 1;hill 1;hill 3;person plain 1 0;person plain 2 0;person plain 3 0;car 0 1 0;car 1 1 0;car 2 1 0;";
+        Due.due("on one hill, on none, on another", Due.at(LAW + two).goes(0), 2);
     }
 
     private static void people() {
@@ -307,10 +320,36 @@ final class EdgeTexts {
         Due.due("restore(1)", x.restore(1), 1);
         Due.due("glasses of image 1", x.count(5), 1);
         Due.due("home of it", x.home(0, 2), 2);
+        fullAndBareInTurn();
         Sentences.says(Sentences.TERMS, "All are at SITE 0.");
         HomeDrives y = Due.at(LAW + "way 0 1 7;way 1 2 5;person plain 1 0;person plain 2 0;person plain 1 0;car 0 1 0;car 1 1 0;");
         Due.due("from 0 to 1", y.order(0, 0, -1), 7);
         Due.due("from 0 to 2", y.order(0, 1, -1), 12);
+    }
+
+    /** Evenings that have all that there is room for, and such that have little, one after the other. */
+    private static void fullAndBareInTurn() {
+        HomeDrives x = new HomeDrives();
+        String full = LAW + "way 1 2 1;".repeat(16) + "hill 1;hill 2;hill 3;hill 4;hill 5;hill 6;hill 7;" + "person sick 1 0;".repeat(7)
+            + "car 2 1 1;car 1 1 1;car 0 1 1;" + "quarrel 0 1;".repeat(6);
+        String bare = LAW + "way 0 1 3;" + GUEST + GUEST + "car 0 1 0;";
+        for (int round = 0; round < 2; round++) {
+            for (int twice = 0; twice < 2; twice++) {
+                Due.due("all that there is room for", Due.read(x, full), 7);
+                Due.due("quarrels", x.count(3), 6);
+                Due.due("cars", x.count(2), 3);
+                Due.due("none goes", x.goes(0), 0);
+            }
+            for (int twice = 0; twice < 2; twice++) {
+                Due.due("little", Due.read(x, bare), 2);
+                Due.due("no quarrels", x.count(3), 0);
+                Due.due("no quarrel of 0", x.person(0, 3), 0);
+                Due.due("one car", x.count(2), 1);
+                Due.due("no hill, nobody sick", x.goes(0), 1);
+                Due.due("who rides", x.home(0, 3), 2);
+                Due.due("no way of the one before", x.far(1, 2), NONE);
+            }
+        }
     }
 
     private static void firstFault() {
@@ -421,7 +460,15 @@ final class EdgeTexts {
             Due.due("count(6)", x.count(6), 0);
         }
         Due.due("the empty tape", x.evening(), -1000100);
-        Due.due("count(1) behind it", x.count(1), 7);
+        // Nothing that stood on the tape before is read again behind its end.
+        Due.due("a longer word", Due.read(x, "lawlaw"), -1000100);
+        Due.due("a shorter one", Due.read(x, "law"), -1000103);
+        Due.due("a longer number", Due.read(x, "law 5 44;"), -1000106);
+        Due.due("a shorter one", Due.read(x, "law 5 4"), -1000107);
+        Due.due("more people", Due.read(x, LAW + GUEST + GUEST), 2);
+        Due.due("fewer people", Due.read(x, LAW + GUEST), 1);
+        Due.due("seven people", Due.read(x, LAW + GUEST.repeat(7)), 7);
+        Due.due("count(1) behind an empty tape", x.evening() + x.count(1), -1000100 + 7);
         Sentences.says(7, "-1000100 less the place of a FAULT: all but the tape, and what fault() tells, stays.");
         x.image(0);
         x.drink(0, 3);

@@ -283,6 +283,10 @@ final class EdgeHome {
         z.drink(0, 9);
         Due.due("no car goes", z.detour(0, 1), NONE);
         Due.due("nor does he drive", z.detour(0, 0), NONE);
+        HomeDrives three = Due.at(LINE + AT_1.repeat(3) + "person plain 7 0;car 0 4 0;car 1 4 0;car 2 4 0;");
+        for (int person = 0; person < 4; person++) {
+            Due.due("who drives one of three cars, or is in none of them", three.detour(0, person), NONE);
+        }
         Sentences.says(20, "BAD.");
         for (int minute : NO_MINUTES) {
             Due.due("detour(" + minute + ", 0)", z.detour(minute, 0), BAD);

@@ -1,8 +1,13 @@
+import java.io.IOException;
 import java.lang.reflect.Field;
 import java.lang.reflect.Member;
 import java.lang.reflect.Method;
 import java.lang.reflect.Modifier;
+import java.nio.file.Files;
+import java.nio.file.Path;
 import java.util.TreeSet;
+import java.util.regex.Matcher;
+import java.util.regex.Pattern;
 
 /** The public face, and promise 1: a new object. */
 public final class FaceTest {
@@ -10,11 +15,27 @@ public final class FaceTest {
         + "person(ii) car(ii) far(ii) may(iii) soon(i) odds(iiii) goes(i) home(ii) order(iii) detour(ii) fetch(i) "
         + "house(i) turn(iii) gloves(iii) image(i) restore(i) kind(i) as(ii) ask(ii) trace(i) count(i) status()";
 
-    public static void main(String[] args) {
+    public static void main(String[] args) throws IOException {
+        document(Path.of("../shared/DOC.md"));
         constants();
         members();
         newObject();
         Due.end();
+    }
+
+    /** The document's own face is the one that is looked for here. */
+    private static void document(Path path) throws IOException {
+        if (!Files.exists(path)) {
+            System.out.println("the face was not looked up: there is no " + path);
+            return;
+        }
+        Matcher told = Pattern.compile("    public int ([a-z]+)\\(([^)]*)\\);").matcher(Files.readString(path));
+        StringBuilder face = new StringBuilder();
+        while (told.find()) {
+            face.append(face.isEmpty() ? "" : " ").append(told.group(1)).append('(');
+            face.append(told.group(2).replaceAll("(int|long) [a-z]+(, )?", "$1").replace("int", "i").replace("long", "l")).append(')');
+        }
+        Due.due("the face of the document (" + face + ")", face.toString().equals(FACE) ? 1 : 0, 1);
     }
 
     private static void constants() {
